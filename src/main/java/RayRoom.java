@@ -229,7 +229,7 @@ public final class RayRoom {
     }
 
     public int facing(int triangle) {
-        return mesh.has(triangle) ? Long.signum(eyeSide(triangle)) : NO_SIDE;
+        return mesh.has(triangle) ? sign(eyeSide(triangle)) : NO_SIDE;
     }
 
     public int touched(int k) {
@@ -277,6 +277,13 @@ public final class RayRoom {
         return v >= 0 && v <= BRIGHTEST;
     }
 
+    private static int sign(long v) {
+        if (v == 0) {
+            return 0;
+        }
+        return v > 0 ? 1 : -1;
+    }
+
     /** Finds what the ray of a pixel hits first. */
     private void look(int x, int y, Hit found) {
         camera.aim(x, y, sight);
@@ -298,8 +305,8 @@ public final class RayRoom {
     }
 
     private boolean isOnEyeSide(Hit hit, int lamp) {
-        int eyeSign = Long.signum(eyeSide(hit.which));
-        return eyeSign != 0 && eyeSign == Long.signum(lampSide(hit.which, lamp));
+        int eyeSign = sign(eyeSide(hit.which));
+        return eyeSign != 0 && eyeSign == sign(lampSide(hit.which, lamp));
     }
 
     /** The level of a light at a hit; NONE if the light does not reach it. */

@@ -15,12 +15,14 @@ public final class OracleTest {
     private final List<String> said = new ArrayList<>();
     private final int kind;
     private final int span;
+    private final int enough;
 
     private OracleTest(Check check, long seed) {
         this.check = check;
         this.random = new Random(seed);
         this.kind = (int) (seed % 6);
         this.span = new int[] {2, 4, 12, 60, 255, 255}[kind];
+        this.enough = new int[] {1, 2, 3, 4, 6, 9, 14, 60}[(int) (seed / 6 % 8)];
     }
 
     public static void main(String[] args) {
@@ -55,6 +57,12 @@ public final class OracleTest {
         return random.nextInt(2 * span + 1) - span;
     }
 
+    private int[] someCorner() {
+        Model.Vec corner = model.tris.get(random.nextInt(model.tris.size())).corner[random.nextInt(3)];
+        return new int[] {corner.x().n().intValueExact(), corner.y().n().intValueExact(),
+            corner.z().n().intValueExact()};
+    }
+
     private int wild() {
         return WILD[random.nextInt(WILD.length)];
     }
@@ -80,6 +88,13 @@ public final class OracleTest {
         int x = coordinate();
         int y = coordinate();
         int z = coordinate();
+        if (!model.tris.isEmpty() && random.nextInt(4) == 0) {
+            // A corner once more: shared corners, flat boxes, rays along edges.
+            int[] corner = someCorner();
+            x = corner[0];
+            y = corner[1];
+            z = random.nextInt(4) == 0 ? z : corner[2];
+        }
         if (random.nextInt(40) == 0) {
             x = wild();
         } else if (random.nextInt(40) == 0) {
@@ -105,6 +120,10 @@ public final class OracleTest {
     private void step(int k) {
         int r = k < 25 ? random.nextInt(20) : random.nextInt(100);
         if (r < 8) {
+            if (model.tris.size() >= enough && random.nextInt(60) > 0) {
+                askRay();
+                return;
+            }
             collectUpTo(3);
             int tone = value();
             due("triangle(" + tone + ")", room.triangle(tone), model.triangle(tone));
@@ -144,7 +163,15 @@ public final class OracleTest {
         int x = random.nextInt(2 * reach + 1) - reach;
         int y = random.nextInt(2 * reach + 1) - reach;
         int z = random.nextInt(2 * reach + 1) - reach;
-        if (random.nextInt(12) == 0) {
+        if (!model.tris.isEmpty() && random.nextInt(3) == 0) {
+            // Straight at a corner, where edges are met.
+            int[] corner = someCorner();
+            which = 0;
+            x = corner[0] - model.eye.x().n().intValueExact();
+            y = corner[1] - model.eye.y().n().intValueExact();
+            z = corner[2] - model.eye.z().n().intValueExact();
+        }
+        if (random.nextInt(20) == 0) {
             x = wild();
         }
         if (random.nextInt(20) == 0) {
