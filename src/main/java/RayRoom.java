@@ -141,7 +141,7 @@ public final class RayRoom {
             return BAD;
         }
         look(x, y, atHand);
-        return atHand.triangleOrNone();
+        return atHand.which;
     }
 
     public long told(int what) {
@@ -650,10 +650,6 @@ public final class RayRoom {
 
         boolean isThere() {
             return which >= 0;
-        }
-
-        int triangleOrNone() {
-            return isThere() ? which : NONE;
         }
 
         void clear() {

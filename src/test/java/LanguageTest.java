@@ -133,7 +133,7 @@ public final class LanguageTest {
     }
 
     private static void methodLengths(String code) {
-        Matcher head = Pattern.compile("(?m)^( +)(?!private static final class)[\\w\\[\\] ]+\\([^;{]*\\) \\{$").matcher(code);
+        Matcher head = Pattern.compile("(?m)^( +)[\\w\\[\\] ]+\\([^;{]*\\) \\{$").matcher(code);
         while (head.find()) {
             int end = code.indexOf("\n" + head.group(1) + "}", head.end());
             CHECK.dueTrue("an end of " + head.group().trim(), end > 0);

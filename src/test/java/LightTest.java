@@ -167,6 +167,8 @@ public final class LightTest {
         due("22: other levels do nothing", s.room.pixel(0, 0), 48);
         s.room.set(3, 0, 255);
         due("22: 255 * 62 / 255", s.room.pixel(0, 0), 62);
+        s.light(0, 1, 0, 0, 255);
+        due("22: the weakest light, from straight above", s.room.pixel(0, 0), 11);
         s.light(0, 0, 4, 0, 3);
         due("22: the light is out", s.room.pixel(0, 0), 10);
         s.room.set(2, 0, 33);

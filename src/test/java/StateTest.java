@@ -142,6 +142,42 @@ public final class StateTest {
         due("3: still 128", s.room.count(0), 128);
         due("11: the greatest tree", s.room.build(1), 255);
         due("28: its depth", s.room.count(6), 7);
+        full();
+    }
+
+    /** 128 triangles above each other, and every call that goes through them. */
+    private static void full() {
+        Scene s = new Scene();
+        for (int k = 0; k < 128; k++) {
+            s.triangle(255, -9, -9, -k, 9, -9, -k, 0, 9, -k);
+        }
+        s.eye(0, 0, 10);
+        s.room.axis(0, 0, 0, -1);
+        s.light(0, 255, 0, 0, 50);
+        due("17: all are crossed", s.room.cross(0, 0), 128);
+        due("18: the first", s.room.crossing(0), 0);
+        due("18: the last", s.room.crossing(127), 127);
+        due("18: no more", s.room.crossing(128), RayRoom.BAD);
+        due("15: the first", s.room.hit(0, 0), 0);
+        due("21: nothing between", s.room.shadow(0, 0, 0), RayRoom.NONE);
+        due("22: bright", s.room.pixel(0, 0), 255);
+        due("24: one is seen", s.room.seen(-1), 1);
+        s.eye(0, 0, -200);
+        s.room.axis(0, 0, 0, 1);
+        due("15: the last", s.room.hit(0, 0), 127);
+        due("24: the last is seen", s.room.seen(0), 127);
+        due("21: the light is behind", s.room.shadow(0, 0, 0), RayRoom.NONE);
+        due("11: build(8)", s.room.build(8), 31);
+        due("19: all nodes", s.room.meets(0, 0, 0), 31);
+        due("19: all triangles", s.room.meets(0, 0, 1), 128);
+        due("12: refit()", s.room.refit(), 0);
+        due("14: the last", s.room.order(127), 0);
+        due("14: no more", s.room.order(128), RayRoom.BAD);
+        s.points(0, 0, 0, 0, 0, -127);
+        due("26: all are touched", s.room.touched(-1), 128);
+        due("26: the last", s.room.touched(127), 127);
+        due("27: shared(127, 0)", s.room.shared(127, 0), 0);
+        due("27: no triangle 128", s.room.shared(128, 0), RayRoom.BAD);
     }
 
     /** A room in which every kind of answer is there. */
