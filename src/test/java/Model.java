@@ -201,6 +201,27 @@ final class Model {
         return tris.size() - 1;
     }
 
+    void collect(int... c) {
+        for (int k = 0; k < c.length; k += 3) {
+            point(c[k], c[k + 1], c[k + 2]);
+        }
+    }
+
+    int put(int tone, int... corners) {
+        collect(corners);
+        return triangle(tone);
+    }
+
+    int eyeAt(int x, int y, int z) {
+        collect(x, y, z);
+        return eye();
+    }
+
+    int lightAt(int which, int strength, int x, int y, int z) {
+        collect(x, y, z);
+        return light(which, strength);
+    }
+
     boolean isTri(int i) {
         return i >= 0 && i < tris.size();
     }

@@ -182,6 +182,17 @@ public final class Promise11Test {
         s.put(1, 0, 0, 0, 3, 0, 0, 0, 2, 0);
         s.build(1);
         CHECK.dueAll("by sums, not by thirds cut off", s.allOrder(), 1, 0);
+        // One step in one coordinate of one corner is enough.
+        for (int k = 0; k < 9; k++) {
+            int[] corners = {7, -9, 20, -30, 8, -1, 2, 3, -40};
+            Room t = new Room();
+            corners[k]++;
+            t.put(1, corners);
+            corners[k]--;
+            t.put(1, corners);
+            t.build(1);
+            CHECK.dueAll("corner " + k / 3 + ", axis " + k % 3, t.allOrder(), 1, 0);
+        }
     }
 
     private static void furthestMiddles() {

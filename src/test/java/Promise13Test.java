@@ -8,6 +8,7 @@ public final class Promise13Test {
         oneNode();
         lowerAndUpper();
         boxesAtTheEdge();
+        boxesOfEachCorner();
         noSuchNode();
         noSuchNumber();
         noTree();
@@ -52,6 +53,27 @@ public final class Promise13Test {
         CHECK.dueAll("node 0", r.allOf(0), 0, 2, 1, 2, NONE, -255, -255, -255, 255, 255, 255);
         CHECK.dueAll("node 1", r.allOf(1), 0, 1, NONE, NONE, 0, -255, -255, -255, 255, 255, 255);
         CHECK.dueAll("node 2", r.allOf(2), 1, 1, NONE, NONE, 0, 254, 253, 252, 255, 255, 255);
+    }
+
+    private static void boxesOfEachCorner() {
+        CHECK.sentence("A node's BOX is the least one that has all corners of its triangles");
+        for (int k = 0; k < 9; k++) {
+            for (int far = -50; far <= 50; far += 100) {
+                int[] corners = {1, 2, 3, 4, 5, 7, 8, 9, 9};
+                corners[k] = far;
+                Room r = new Room();
+                r.put(1, 2, 3, 4, 3, 3, 4, 2, 4, 4);
+                r.put(1, corners);
+                r.build(2);
+                for (int axis = 0; axis < 3; axis++) {
+                    int a = corners[axis];
+                    int b = corners[3 + axis];
+                    int c = corners[6 + axis];
+                    due("least on " + axis, r.node(0, 5 + axis), Math.min(2 + axis, Math.min(a, Math.min(b, c))));
+                    due("greatest on " + axis, r.node(0, 8 + axis), Math.max(3, Math.max(a, Math.max(b, c))));
+                }
+            }
+        }
     }
 
     private static void noSuchNode() {

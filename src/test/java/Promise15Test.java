@@ -13,6 +13,7 @@ public final class Promise15Test {
         alongThePlane();
         noDirection();
         edgesAndCorners();
+        hardlyOutside();
         ofSeveralTheLesser();
         asManyAsMayBe();
         acrossTheRoom();
@@ -158,6 +159,24 @@ public final class Promise15Test {
         }
     }
 
+    private static void hardlyOutside() {
+        CHECK.sentence("belongs to the triangle (by a thousandth of its edges)");
+        for (int turned = 0; turned < 2; turned++) {
+            Room r = new Room();
+            r.put(1, 0, 0, 0, 1 - turned, turned, 0, turned, 1 - turned, 0);
+            r.eyeAt(0, 0, 1);
+            int[][] on = {{0, 0}, {1000, 0}, {0, 1000}, {500, 0}, {0, 500}, {500, 500}, {1, 1}, {998, 1}, {1, 998}};
+            int[][] off = {{-1, 0}, {0, -1}, {-1, 500}, {500, -1}, {501, 500}, {500, 501}, {1001, 0}, {0, 1001},
+                {1000, 1}, {1, 1000}, {-1, 1000}, {1000, -1}, {-1, -1}};
+            for (int[] d : on) {
+                due("along " + d[0] + " " + d[1] + " -1000", r.hitAlong(d[0], d[1], -1000), 0);
+            }
+            for (int[] d : off) {
+                due("along " + d[0] + " " + d[1] + " -1000", r.hitAlong(d[0], d[1], -1000), NONE);
+            }
+        }
+    }
+
     private static void ofSeveralTheLesser() {
         CHECK.sentence("What it hits FIRST has the least t; of several the lesser number");
         Room r = wall();
@@ -181,6 +200,10 @@ public final class Promise15Test {
         Room s = Room.pile(126);
         s.eyeAt(0, 0, -200);
         due("from below", s.hitAlong(0, 0, 1), 125);
+        Room all = Room.pile(128).beyondAllCalls();
+        due("128 from above", all.hitAlong(0, 0, -1), 0);
+        all.eyeAt(0, 0, -200);
+        due("128 from below", all.hitAlong(0, 0, 1), 127);
     }
 
     private static void acrossTheRoom() {

@@ -9,6 +9,8 @@ public final class Promise19Test {
         tOfZeroOrMore();
         noDirection();
         boxesAsTheyAre();
+        fewerNodesThanBefore();
+        allAroundABox();
         asManyAsMayBe();
         noneSuch();
         noSuchPixel();
@@ -127,12 +129,58 @@ public final class Promise19Test {
         dueMeets("the boxes after refit()", r, 1, 2);
     }
 
+    private static void fewerNodesThanBefore() {
+        CHECK.sentence("the nodes of the tree (not those of a tree that was)");
+        Room r = Room.row(0, 10, 20, 30, 40);
+        r.eyeAt(-1, 0, 0);
+        r.axis(0, 1, 0, 0);
+        r.build(1);
+        dueMeets("build(1)", r, 9, 5);
+        r.build(2);
+        dueMeets("build(2)", r, 5, 5);
+        r.build(8);
+        dueMeets("build(8)", r, 1, 5);
+        r.axis(0, -1, 0, 0);
+        dueMeets("away", r, 0, 0);
+    }
+
+    /** Rays from a grid of places all around, with the answer of the model, which looks for places in the box. */
+    private static void allAroundABox() {
+        CHECK.sentence("A ray MEETS a node, if some E + t D with t of 0 or more lies in the box");
+        int[][] eyes = {{-2, 1, 1}, {5, -1, 1}, {1, 4, 3}, {-1, -1, -1}, {6, 5, 3}, {2, 2, 5}, {0, 3, 4}, {4, 1, -2},
+            {1, 1, 1}, {4, 3, 2}, {-3, 6, 2}, {9, 0, 0}};
+        for (int[] e : eyes) {
+            for (int dx = -3; dx <= 3; dx++) {
+                Room r = new Room();
+                Model model = new Model();
+                r.put(1, 0, 0, 0, 4, 0, 0, 4, 3, 2);
+                r.build(1);
+                r.eyeAt(e[0], e[1], e[2]);
+                model.put(1, 0, 0, 0, 4, 0, 0, 4, 3, 2);
+                model.build(1);
+                model.eyeAt(e[0], e[1], e[2]);
+                for (int k = 0; k < 49; k++) {
+                    int dy = k % 7 - 3;
+                    int dz = k / 7 - 3;
+                    r.axis(0, dx, dy, dz);
+                    model.axis(0, dx, dy, dz);
+                    due("from " + java.util.Arrays.toString(e) + " along " + dx + " " + dy + " " + dz,
+                        r.meets(0, 0, 0), model.meets(0, 0, 0));
+                }
+            }
+        }
+    }
+
     private static void asManyAsMayBe() {
         CHECK.sentence("How many nodes, how many triangles (as many as may be)");
         Room r = Room.pile(126);
         r.build(1);
         r.axis(0, 0, 0, -1);
         dueMeets("126 triangles below each other", r, 251, 126);
+        Room all = Room.pile(128).beyondAllCalls();
+        all.build(1);
+        all.axis(0, 0, 0, -1);
+        dueMeets("128 triangles below each other", all, 255, 128);
     }
 
     private static void noneSuch() {

@@ -7,6 +7,8 @@ public final class Promise20Test {
     public static void main(String[] args) {
         eachLevel();
         notBelow();
+        finest();
+        leaning();
         fromBothSides();
         greatNumbers();
         otherSide();
@@ -76,6 +78,52 @@ public final class Promise20Test {
         due("1", levelFrom(r, 10, 11, 1), 1);
         due("nearly 1", levelFrom(r, 15, 1, 1), 0);
         due("hardly any", levelFrom(r, 255, 255, 1), 0);
+    }
+
+    /** N is 0 0 1 and D 0 0 -1: nothing is multiplied, so that each step can be seen. */
+    private static void finest() {
+        CHECK.sentence("(15 N . l) squared not below k k (N . N) (l . l) (with the least numbers)");
+        Room r = new Room();
+        r.put(1, 0, 0, 0, 1, 0, 0, 0, 1, 0);
+        r.eyeAt(0, 0, 10);
+        r.axis(0, 0, 0, -1);
+        for (int z : new int[] {1, 2, 3, 4, 5, 12, 60, 200, 253, 254, 255}) {
+            for (int x = 0; x < 12; x++) {
+                due("from " + x + " 0 " + z, levelFrom(r, x, 0, z), levelOf(x, 0, z));
+            }
+        }
+        due("from 190 0 253", levelFrom(r, 190, 0, 253), 11);
+        due("from 189 0 252", levelFrom(r, 189, 0, 252), 12);
+        due("from 255 255 1", levelFrom(r, 255, 255, 1), 0);
+    }
+
+    /** Triangles that lean every way, and not only the first one of a room. */
+    private static void leaning() {
+        CHECK.sentence("THE LEVEL of a light at P (N is (B - A) x (C - A))");
+        int[][] edges = {{1, 0, 0, 0, 1, 0}, {0, 1, 0, 0, 0, 1}, {0, 0, 1, 1, 0, 0}, {1, 2, 3, -3, 1, 2},
+            {-7, 5, 1, 4, 4, -9}, {100, -3, 20, 7, 90, -60}, {2, 3, 6, 3, -6, 2}, {-5, 0, 12, 1, 40, 3}};
+        int[][] lights = {{9, 4, 7}, {-20, 33, 5}, {6, -8, 1}, {255, 255, 255}, {-3, -2, -6}, {1, -40, 2}, {-90, 1, 0}};
+        for (int[] e : edges) {
+            Room r = new Room();
+            Model model = new Model();
+            // Far behind the eye, with other normals.
+            r.put(1, 250, 250, -250, 251, 250, -250, 250, 251, -251);
+            r.put(1, 250, 250, -250, 250, 251, -250, 250, 250, -251);
+            r.put(1, 0, 0, 0, e[0], e[1], e[2], e[3], e[4], e[5]);
+            model.put(1, 250, 250, -250, 251, 250, -250, 250, 251, -251);
+            model.put(1, 250, 250, -250, 250, 251, -250, 250, 250, -251);
+            model.put(1, 0, 0, 0, e[0], e[1], e[2], e[3], e[4], e[5]);
+            for (int side = -1; side <= 1; side += 2) {
+                r.eyeAt(side * 50, side * 60, side * 70);
+                model.eyeAt(side * 50, side * 60, side * 70);
+                due("hit at corner A", r.hitAlong(-50 * side, -60 * side, -70 * side), 2);
+                model.axis(0, -50 * side, -60 * side, -70 * side);
+                for (int[] l : lights) {
+                    model.lightAt(0, 1, l[0], l[1], l[2]);
+                    due("from " + l[0] + " " + l[1] + " " + l[2], levelFrom(r, l[0], l[1], l[2]), model.lit(0, 0, 0));
+                }
+            }
+        }
     }
 
     private static void fromBothSides() {

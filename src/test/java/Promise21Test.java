@@ -141,6 +141,12 @@ public final class Promise21Test {
         r.axis(0, 0, 0, -1);
         r.lightAt(3, 1, 6, 0, 2);
         due("the last", r.shadow(0, 0, 3), 125);
+        Room all = Room.pile(127).beyondAllCalls();
+        all.put(1, 3, -5, -1, 3, 5, -1, 3, 0, 9);
+        all.axis(0, 0, 0, -1);
+        all.lightAt(3, 1, 6, 0, 2);
+        due("the last of 128", all.shadow(0, 0, 3), 127);
+        due("no other way is shut", all.shadow(0, 0, 2), NONE);
     }
 
     private static void noSuchLight() {

@@ -10,6 +10,7 @@ public final class Promise22Test {
         cutOff();
         atMost255();
         litOnly();
+        asManyAsMayBe();
         noStrength();
         noSuchPixel();
         CHECK.end();
@@ -142,6 +143,18 @@ public final class Promise22Test {
         due("one is in the shadow", r.pixel(0, 0), 65);
         r.moveTo(1, 2, 2, 0, 1);
         due("below the way", r.pixel(0, 0), 218);
+    }
+
+    private static void asManyAsMayBe() {
+        CHECK.sentence("A PIXEL (with as many triangles as may be)");
+        Room r = Room.pile(126);
+        r.axis(0, 0, 0, -1);
+        r.lightAt(0, 255, 0, 0, 9);
+        due("pixel(0, 0)", r.pixel(0, 0), 255);
+        Room all = Room.pile(128).beyondAllCalls();
+        all.axis(0, 0, 0, -1);
+        all.lightAt(3, 100, 0, 0, 9);
+        due("pixel(0, 0) of 128", all.pixel(0, 0), 100);
     }
 
     private static void noStrength() {

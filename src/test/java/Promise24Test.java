@@ -7,6 +7,7 @@ public final class Promise24Test {
         byNumber();
         firstHitsOnly();
         eachOnce();
+        raysOfThePicture();
         none();
         asManyAsMayBe();
         noneSuch();
@@ -74,6 +75,24 @@ public final class Promise24Test {
         }
     }
 
+    /** Triangles that only rays beside the picture would hit: its own come to -1 and 1. */
+    private static void raysOfThePicture() {
+        CHECK.sentence("by rays of the picture (not by rays beside it)");
+        int[][] beside = {{2, 0, 9, 9, 9, -9}, {-2, 0, -9, 9, -9, -9}, {0, 2, 9, 9, -9, 9}, {0, -2, 9, -9, -9, -9}};
+        for (int[] c : beside) {
+            Room r = new Room();
+            r.put(1, c[0], c[1], 0, c[2], c[3], 0, c[4], c[5], 0);
+            r.eyeAt(0, 0, 1);
+            r.size(2, 2);
+            r.axis(0, 0, 0, -1);
+            r.axis(1, 1, 0, 0);
+            r.axis(2, 0, 1, 0);
+            due("seen(-1)", r.seen(-1), 0);
+            r.size(4, 4);
+            due("seen(-1) in a greater picture", r.seen(-1), 1);
+        }
+    }
+
     private static void none() {
         CHECK.sentence("how many (none)");
         due("seen(-1) without triangles", new Room().seen(-1), 0);
@@ -102,6 +121,11 @@ public final class Promise24Test {
         due("seen(-1)", r.seen(-1), 124);
         due("seen(123)", r.seen(123), 123);
         due("seen(124)", r.seen(124), BAD);
+        Room all = Room.pile(128).beyondAllCalls();
+        all.eyeAt(0, 0, -200);
+        all.axis(0, 0, 0, 1);
+        due("seen(-1) of 128", all.seen(-1), 1);
+        due("seen(0) of 128", all.seen(0), 127);
     }
 
     private static void noneSuch() {

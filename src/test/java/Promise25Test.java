@@ -5,6 +5,7 @@ public final class Promise25Test {
     public static void main(String[] args) {
         whichSide();
         onIt();
+        eachAxis();
         greatNumbers();
         noneSuch();
         CHECK.end();
@@ -38,6 +39,20 @@ public final class Promise25Test {
             due("one step above", r.facing(0), 1);
             r.eyeAt(e[0], e[1], -1);
             due("one step below", r.facing(0), -1);
+        }
+    }
+
+    private static void eachAxis() {
+        CHECK.sentence("1, - 1, 0 (with the least numbers, on each axis)");
+        int[][] planes = {{0, 1, 0, 0, 0, 1}, {0, 0, 1, 1, 0, 0}, {1, 0, 0, 0, 1, 0}};
+        for (int axis = 0; axis < 3; axis++) {
+            int[] p = planes[axis];
+            for (int step = -1; step <= 1; step++) {
+                Room r = new Room();
+                r.put(1, 5, 6, 7, 5 + p[0], 6 + p[1], 7 + p[2], 5 + p[3], 6 + p[4], 7 + p[5]);
+                r.eyeAt(axis == 0 ? 5 + step : -50, axis == 1 ? 6 + step : 70, axis == 2 ? 7 + step : -90);
+                due("a step of " + step + " on axis " + axis, r.facing(0), step);
+            }
         }
     }
 

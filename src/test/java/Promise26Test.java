@@ -13,6 +13,7 @@ public final class Promise26Test {
         itsSidesBelongToIt();
         pastEdges();
         flatBoxes();
+        manySmallOnes();
         theWholeRoom();
         none();
         asManyAsMayBe();
@@ -150,6 +151,32 @@ public final class Promise26Test {
         dueTouch(false, box(-5, -5, 0, 0, 0, 0), 1, -9, 0, 9, -9, 0, 9, 9, 0);
     }
 
+    /** Small boxes and triangles of every kind, with the answer of the model, which cuts the triangle by the box. */
+    private static void manySmallOnes() {
+        CHECK.sentence("the k-th triangle, by number, that has some place in common with it (whatever they look like)");
+        java.util.Random random = new java.util.Random(26);
+        for (int round = 0; round < 400; round++) {
+            Room r = new Room();
+            Model model = new Model();
+            int reach = 2 + round % 5;
+            for (int k = 0; k < 9; k++) {
+                int[] c = random.ints(9, -reach, reach + 1).toArray();
+                r.put(1, c);
+                model.put(1, c);
+            }
+            for (int k = 0; k < 12; k++) {
+                int[] b = random.ints(6, -2, 3).toArray();
+                r.drop();
+                r.collect(b);
+                model.drop();
+                model.collect(b);
+                String call = "touched in round " + round + " by " + Arrays.toString(b);
+                due(call, r.touched(-1), model.touched(-1));
+                due(call, r.touched(1), model.touched(1));
+            }
+        }
+    }
+
     private static void theWholeRoom() {
         CHECK.sentence("corners of a box (from one end of the room to the other)");
         dueTouch(true, box(-255, -255, -255, 255, 255, 255), -255, 255, 255, 255, -255, 255, 255, 255, -255);
@@ -178,6 +205,10 @@ public final class Promise26Test {
         due("touched(0)", r.touched(0), 0);
         due("touched(125)", r.touched(125), 125);
         due("touched(126)", r.touched(126), BAD);
+        Room all = Room.pile(128).beyondAllCalls().collect(0, 0, 0, 0, 0, -255);
+        due("touched(-1) of 128", all.touched(-1), 128);
+        due("touched(127) of 128", all.touched(127), 127);
+        due("touched(128) of 128", all.touched(128), BAD);
     }
 
     private static Room twoOfThree() {
